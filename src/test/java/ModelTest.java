@@ -57,6 +57,7 @@ public final class ModelTest {
         if (mood % 2 == 1) {
             both.call("careful", 1);
         }
+        prelude();
         for (int i = 0; i < CALLS && !Check.failing(); i++) {
             step();
             both.lookAtAll();
@@ -68,6 +69,60 @@ public final class ModelTest {
             }
             lookAhead();
         }
+    }
+
+    /** Limits of the document lie far from where a run begins; some runs begin near them. */
+    private void prelude() {
+        switch (up(8)) {
+            case 0 -> fillLogs();
+            case 1 -> raiseTerms();
+            case 2 -> {
+                fillLogs();
+                electOftenMore();
+                raiseTerms();
+            }
+            case 3 -> {
+                fillLogs();
+                electOftenMore();
+            }
+            default -> { }
+        }
+    }
+
+    private int someMember() {
+        int s = up(5);
+        for (int i = 0; i < 5 && !both.model.state.members(s).has(s); i++) {
+            s = (s + 1) % 5;
+        }
+        return s;
+    }
+
+    private void fillLogs() {
+        int s = someMember();
+        both.script("timeout " + s + "; settle 200;");
+        if (chance(40)) {
+            both.call("link", s, (s + 1) % 5, 0);
+        }
+        both.script("times 2 { times " + (40 + up(11)) + " { add " + s + " " + up(4) + " -999; "
+            + (chance(70) ? "settle 20;" : "") + "} }");
+        both.call("settle", 1 + up(60));
+    }
+
+    private void electOftenMore() {
+        int s = someMember();
+        both.script("stop " + s + "; start " + s + ";");
+        both.script("times " + (10 + up(14)) + " { timeout " + s + "; settle 100; stop " + s + "; start " + s + ";}");
+        both.script("timeout " + s + "; settle 150;");
+    }
+
+    private void raiseTerms() {
+        int s = someMember();
+        both.call("stop", s);
+        both.call("start", s);
+        both.call("careful", 0);
+        both.script("times 4 { times " + (46 + up(5)) + " { timeout " + s + "; } }");
+        both.call("settle", 1 + up(200));
+        both.call("careful", up(2));
     }
 
     private void lookAhead() {
