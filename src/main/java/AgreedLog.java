@@ -1270,7 +1270,10 @@ public final class AgreedLog {
                 if (sends) {
                     sendToAll(x);
                 }
-                sends = agrees && agree(x);
+                if (agrees) {
+                    agreeUpTo(x, greatestShared(x));
+                }
+                sends = agrees && leavesJoint(x);
                 agrees = sends;
             }
             if ((left & GOES_ON) != 0 && x.role == LEADER && x.next[other] <= x.last) {
@@ -1342,9 +1345,8 @@ public final class AgreedLog {
             System.arraycopy(x.log, m.a + 1, m.load, 0, m.count);
         }
 
-        /** Answers whether an entry NEW came, behind which it sends and agrees again. */
-        private boolean agree(Store x) {
-            agreeUpTo(x, greatestShared(x));
+        /** Answers whether an entry NEW came, behind which the leader sends and agrees again. */
+        private boolean leavesJoint(Store x) {
             if (x.told > x.agreed) {
                 return false;
             }
