@@ -1726,11 +1726,12 @@ public final class AgreedLog {
         private static final int CANT_STAND = 1;
         private static final int WRONG_NUMBER = 2;
         private static final int TOO_DEEP = 3;
+        private static final int NUMBERS_MOST = 3;
         private static final int DIGITS_MOST = 3;
         private static final int TIMES_MOST = 50;
 
         final int[] bytes = new int[TAPE_MOST];
-        final int[] told = new int[DIGITS_MOST];
+        final int[] told = new int[NUMBERS_MOST];
         int size = 0;
         int fault = 0;
         int faultPlace = NONE;
@@ -1866,9 +1867,6 @@ public final class AgreedLog {
 
         private void parseAct(Program program, int word, int place) {
             int numbers = NUMBERS[word];
-            for (int i = 0; i < DIGITS_MOST; i++) {
-                told[i] = 0;
-            }
             for (int i = 0; i < numbers && fault == 0; i++) {
                 skipBlanks();
                 boolean minus = i == 2 && here() == '-';

@@ -2,7 +2,7 @@ import java.util.Random;
 
 /** Runs drawn from fixed seeds, each call held against the model, and all that lies open behind it. */
 public final class ModelTest {
-    private static final int RUNS = 500;
+    private static final int RUNS = 150;
     private static final int CALLS = 130;
 
     private final Random random;

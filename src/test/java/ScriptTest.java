@@ -163,6 +163,8 @@ public final class ScriptTest {
         due("a capital", Check.script(x, "Beat 0;"), -31);
         due("a capital within", Check.script(x, "beaT 0;"), -31);
         due("the word isn't one", x.fault(1), 0);
+        due("a z within", Check.script(x, "beatz 0;"), -31);
+        due("the word isn't one", x.fault(1), 0);
         due("a capital behind", Check.script(x, "beatT 0;"), -31);
         due("the word is one", x.fault(1), 4);
     }
