@@ -11,7 +11,7 @@ public final class AgreedLog {
     private static final int NO_IMAGE = -6;
     private static final int SCRIPT_FAULT = -30;
     private static final int NO_ENTRY = -1000;
-    private static final int NO_CELL = Integer.MIN_VALUE;
+    private static final int NO_CELL = -2147483648;
 
     private static final int STORES = 5;
     private static final int ALL_STORES = 31;
@@ -801,11 +801,12 @@ public final class AgreedLog {
         /** The one taken out lies in the last slot, which post() never fills, while it is heard. */
         Message takeOut(int i) {
             Message m = box[i];
-            for (int j = i; j < WAIT_MOST; j++) {
+            waiting--;
+            for (int j = i; j < waiting; j++) {
                 box[j] = box[j + 1];
             }
+            box[waiting] = box[WAIT_MOST];
             box[WAIT_MOST] = m;
-            waiting--;
             return m;
         }
 

@@ -6,6 +6,7 @@ import com.sun.source.tree.CompoundAssignmentTree;
 import com.sun.source.tree.InstanceOfTree;
 import com.sun.source.tree.LambdaExpressionTree;
 import com.sun.source.tree.MemberReferenceTree;
+import com.sun.source.tree.MemberSelectTree;
 import com.sun.source.tree.MethodInvocationTree;
 import com.sun.source.tree.MethodTree;
 import com.sun.source.tree.NewArrayTree;
@@ -28,6 +29,7 @@ import java.util.Map;
 import java.util.Set;
 import java.util.TreeSet;
 import javax.lang.model.element.Element;
+import javax.lang.model.element.ElementKind;
 import javax.lang.model.element.Modifier;
 import javax.lang.model.type.TypeMirror;
 import javax.tools.JavaCompiler;
@@ -246,6 +248,15 @@ public final class LanguageTest extends TreePathScanner<Void, Void> {
             call(e);
         }
         return super.visitMethodInvocation(t, v);
+    }
+
+    @Override
+    public Void visitMemberSelect(MemberSelectTree t, Void v) {
+        Element e = trees.getElement(getCurrentPath());
+        if (e != null && e.getKind() == ElementKind.FIELD && !t.getIdentifier().contentEquals("length")) {
+            rule(4, isOwn(e.getEnclosingElement()), "a constant of the library: " + t, t);
+        }
+        return super.visitMemberSelect(t, v);
     }
 
     @Override
