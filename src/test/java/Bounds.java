@@ -106,6 +106,23 @@ final class Bounds {
         return x;
     }
 
+    /**
+     * The first set is 15; 0 leads and has a SNAPSHOT at place 4 whose MEMBERS are JOINT (15 and 7), CELL 0 is 5 there
+     * and CELL 3 is 6; NEW at place 5 isn't AGREED; 2 has nothing, and TAKE waits for 1, INSTALL for 2.
+     */
+    static AgreedLog jointInASnapshot() {
+        AgreedLog x = after(15, "cut 0 2; timeout 0; settle 99; set 0 0 5; set 0 3 6; settle 99; change 0 7;");
+        for (int i = 0; i < 60 && x.store(0, 8) < 4; i++) {
+            x.settle(1);
+        }
+        loseAll(x);
+        due("four go", x.compact(0), 4);
+        due("NEW stands behind them", x.store(0, 4), 5);
+        play(x, "join 0 2; beat 0;");
+        due("INSTALL waits", latest(x, 2), 4);
+        return x;
+    }
+
     /** A store that nobody can hear stands, or asks, until its TERM is as told. */
     static void raiseTerm(AgreedLog x, int s, int term) {
         for (int t = 0; t < 5; t++) {

@@ -132,6 +132,22 @@ public final class Bounds01to05Test {
         Bounds.same("as in a new object", Bounds.facts(fresh), Bounds.facts(x));
     }
 
+    static void p02_allIsAnew_snapshotsVotesAndWhatWasLostToo() {
+        AgreedLog x = Bounds.jointInASnapshot();
+        Bounds.play(x, "cut 0 1; beat 0; timeout 3;");
+        due("LOST", x.count(1) > 0 ? 1 : 0, 1);
+        due("votes", x.store(3, 11), 8);
+        x.begin(31);
+        due("none LOST", x.count(1), 0);
+        for (int s = 0; s < 5; s++) {
+            due("no votes", x.store(s, 11), 0);
+            due("not JOINT", x.store(s, 10), 0);
+            due("a STOP", x.stop(s), 0);
+            due("CELL 0 of the SNAPSHOT at place 0", x.cell(s, 0), 0);
+            due("CELL 3 of the SNAPSHOT at place 0", x.cell(s, 3), 0);
+        }
+    }
+
     static void p02_setOfOneStore() {
         for (int s = 0; s < 5; s++) {
             AgreedLog x = new AgreedLog();

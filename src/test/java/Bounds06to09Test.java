@@ -545,6 +545,12 @@ public final class Bounds06to09Test {
         due("the first ones again", Bounds.led(7, "change 0 3; settle 99;").change(0, 7), 4);
     }
 
+    static void p09_membersByTheFirstSet_whileNothingIsAgreed() {
+        AgreedLog x = Bounds.after(3, "timeout 0; come 0; come 0;");
+        due("AGREED", x.store(0, 8), 0);
+        due("place", x.change(0, 7), 2);
+    }
+
     static void p09_membersByASnapshot() {
         AgreedLog x = Bounds.led(7, "change 0 3; settle 99; compact 0;");
         due("MEMBERS", x.store(0, 9), 3);
@@ -648,6 +654,26 @@ public final class Bounds06to09Test {
         due("60 wait", x.count(0), 60);
         due("two LOST", x.count(1), 2);
         due("to 2 the last", Bounds.latest(x, 1), 2);
+    }
+
+    /** 0 had JOINT at place 2, which another entry took over; 0 leads again and has AGREED place 1 alone. */
+    static void p09_membersByTheFirstSetAgain_aboveAgreedNothingToldThem() {
+        AgreedLog x = Bounds.led(31, "cut 0 1; cut 0 2; cut 0 3; cut 0 4; change 0 7; timeout 1; join 0 1; join 0 2; join 0 3;");
+        for (int t = 2; t <= 3; t++) {
+            Bounds.come(x, 1, t, 0);
+            Bounds.come(x, t, 1, 1);
+        }
+        Bounds.come(x, 1, 0, 2);
+        Bounds.loseAll(x);
+        x.timeout(0);
+        for (int t = 2; t <= 3; t++) {
+            Bounds.come(x, 0, t, 0);
+            Bounds.come(x, t, 0, 1);
+        }
+        due("leader", x.store(0, 3), 2);
+        due("AGREED", x.store(0, 8), 1);
+        due("another entry at 2", x.entry(0, 2, 0), 2);
+        due("not refused", x.change(0, 7), 4);
     }
 
     static void p09_entriesOverwrittenTakeTheirMembersWithThem() {

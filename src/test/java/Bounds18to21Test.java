@@ -164,6 +164,10 @@ public final class Bounds18to21Test {
         faulty("timess 2 { }", 1, 0);
         faulty("time 2 { }", 1, 0);
         faulty("stopstop 1;", 1, 0);
+        faulty("stopz 1;", 1, 0);
+        faulty("stopa 1;", 1, 0);
+        faulty("stop` 1;", 1, 4);
+        faulty("stop{ 1;", 1, 4);
         AgreedLog x = new AgreedLog();
         due("a digit right behind", Check.script(x, "stop1;start1;"), 2);
         due("blanks between all", Check.script(x, "   stop   1   ;   start   1   ;   "), 2);

@@ -70,6 +70,16 @@ public final class Bounds29to36Test {
         due("at the SNAPSHOT", x.alike(0, 2), 2);
     }
 
+    static void p29_snapshotsAtOtherPlacesAlone() {
+        AgreedLog x = Bounds.led(7, "set 0 0 1; settle 99; beat 0; settle 99; compact 1; cut 0 1; set 0 0 2; settle 99; compact 0;");
+        due("SNAPSHOT", x.store(0, 6), 3);
+        due("SNAPSHOT of the other", x.store(1, 6), 2);
+        due("none", x.alike(0, 1), 0);
+        due("the other way", x.alike(1, 0), 0);
+        due("with an entry there", x.alike(0, 2), 3);
+        due("with an entry there", x.alike(1, 2), 2);
+    }
+
     static void p29_aSnapshotAgainstAnotherTermAtItsPlace() {
         AgreedLog x = parted();
         x.compact(1);

@@ -278,6 +278,17 @@ public final class Bounds37to42Test {
         due("no MEMBERS don't count", Bounds.led(3, "beat 0; settle 99;").rounds(), 1);
     }
 
+    /** 2 lacks much and is told last, when the entry is AGREED by 0, which must be told once more. */
+    static void p40_whoeverOfThemLacksIt() {
+        for (int lacks : new int[] {0, 2}) {
+            int other = 2 - lacks;
+            AgreedLog x = Bounds.after(7, "timeout 1; settle 99; cut 1 " + other + "; times 6 { set 1 0 1; settle 9; } beat 1; settle 9;",
+                "join 1 " + other + "; set 1 0 2;");
+            Bounds.loseAll(x);
+            due("two, for " + lacks, x.rounds(), 2);
+        }
+    }
+
     static void p40_nothingChanges() {
         AgreedLog x = Bounds.led(31, "set 0 0 1; read 0 0;");
         int[] before = Bounds.facts(x);

@@ -1,3 +1,4 @@
+import java.util.function.Supplier;
 import java.util.function.ToIntFunction;
 
 /** The boundary cases of promises 43 to 46: back. */
@@ -122,6 +123,64 @@ public final class Bounds43to46Test {
         undone("lose", Bounds.led(31, "set 0 0 1;"), x -> x.lose(0));
         undone("twice", Bounds.led(31, "set 0 0 1;"), x -> x.twice(0));
         undone("settle", Bounds.led(31, "set 0 0 1;"), x -> x.settle(200));
+    }
+
+    /** What SNAPSHOTS, messages and MEMBERS hold that no call tells at once. */
+    private static void holdsAsJointInASnapshot(Supplier<AgreedLog> back) {
+        AgreedLog x = back.get();
+        due("MEMBERS by an entry that isn't AGREED", x.change(0, 31), -5);
+        Bounds.come(x, 0, 2, 4);
+        due("MEMBERS of the INSTALL", x.store(2, 9), 15);
+        due("its second set", x.store(2, 10), 7);
+        due("its CELL 0", x.cell(2, 0), 5);
+        due("its CELL 3", x.cell(2, 3), 6);
+        x = back.get();
+        Bounds.come(x, 0, 1, 2);
+        due("the entry of the TAKE", x.entry(1, 5, 1), 4);
+        due("its set", x.entry(1, 5, 2), 7);
+        x = back.get();
+        x.beat(0);
+        Bounds.lose(x, 0, 2, 4);
+        Bounds.come(x, 0, 2, 4);
+        due("MEMBERS of the SNAPSHOT", x.store(2, 9), 15);
+        due("its second set", x.store(2, 10), 7);
+        x = back.get();
+        x.stop(0);
+        due("AGREED", x.store(0, 8), 4);
+        due("CELL 0 of the SNAPSHOT", x.cell(0, 0), 5);
+        due("CELL 3 of the SNAPSHOT", x.cell(0, 3), 6);
+    }
+
+    /** Two calls: another SNAPSHOT, other CELLS, other MEMBERS; then all anew. */
+    private static void goOn(AgreedLog x) {
+        Bounds.play(x, "settle 99; set 0 0 8; add 0 3 9; settle 99; compact 0; change 0 3; settle 99; compact 0;");
+        due("MEMBERS", x.store(0, 9), 3);
+        x.begin(3);
+    }
+
+    static void p43_whatSnapshotsAndMessagesHoldToo() {
+        holdsAsJointInASnapshot(() -> {
+            AgreedLog x = Bounds.jointInASnapshot();
+            goOn(x);
+            x.undo(2);
+            return x;
+        });
+    }
+
+    static void p43_aReadWithItsCellAndNumber() {
+        AgreedLog x = Bounds.led(7, "set 0 2 5; settle 99; read 0 2;");
+        x.begin(31);
+        x.undo(1);
+        due("it waits", x.store(0, 12), 1);
+        due("CELL", x.store(0, 13), 2);
+        due("heard", x.store(0, 16), 1);
+        x.settle(200);
+        due("answered", x.store(0, 12), 2);
+        x.begin(31);
+        x.undo(1);
+        due("answered", x.store(0, 12), 2);
+        due("CELL", x.store(0, 13), 2);
+        due("the number", x.store(0, 14), 5);
     }
 
     static void p43_alsoIfNothingChanges() {
@@ -283,6 +342,35 @@ public final class Bounds43to46Test {
         due("all UP", x.count(3), 31);
     }
 
+    static void p45_whatSnapshotsAndMessagesHoldToo() {
+        for (int i = 0; i < 2; i++) {
+            int which = i;
+            holdsAsJointInASnapshot(() -> {
+                AgreedLog x = Bounds.jointInASnapshot();
+                x.image(which);
+                goOn(x);
+                x.restore(which);
+                return x;
+            });
+        }
+    }
+
+    static void p45_aReadWithItsCellAndNumber() {
+        AgreedLog x = Bounds.led(7, "set 0 2 5; settle 99; read 0 2; ");
+        x.image(0);
+        x.settle(200);
+        x.image(1);
+        x.begin(31);
+        x.restore(0);
+        due("it waits", x.store(0, 12), 1);
+        due("CELL", x.store(0, 13), 2);
+        due("the number", x.store(0, 14), 0);
+        x.restore(1);
+        due("answered", x.store(0, 12), 2);
+        due("CELL", x.store(0, 13), 2);
+        due("the number", x.store(0, 14), 5);
+    }
+
     static void p45_undoLeavesImages() {
         AgreedLog x = new AgreedLog();
         x.stop(0);
@@ -346,6 +434,14 @@ public final class Bounds43to46Test {
         due("AGREED 120", Bounds.aloneWithLast(120).count(6), 120);
         AgreedLog z = Bounds.led(31, "set 0 0 1; settle 99; compact 0; stop 0;");
         due("by a SNAPSHOT", z.count(6), 2);
+    }
+
+    static void p46_what5And6_ofEachStore() {
+        for (int s = 0; s < 5; s++) {
+            AgreedLog x = Bounds.after(1 << s, "timeout " + s + "; set " + s + " 0 1;");
+            due("TERM", x.count(5), 1);
+            due("AGREED", x.count(6), 2);
+        }
     }
 
     static void p46_what7_0To8() {

@@ -482,6 +482,51 @@ public final class BoundsComesTest {
         due("its entry stays", x.entry(2, 3, 3), 5);
     }
 
+    static void p14_installWithAPlaceLikeAgreedMakesNoSnapshotOfEntries() {
+        AgreedLog x = Bounds.led(7, "set 0 0 4;");
+        Bounds.lose(x, 0, 2, 2);
+        come(x, 0, 1, 2);
+        come(x, 1, 0, 3);
+        x.beat(0);
+        due("two go", x.compact(0), 2);
+        x.beat(0);
+        come(x, 0, 2, 2);
+        store("AGREED by TAKE", x, 2, 8, 2);
+        come(x, 0, 2, 4);
+        latest(x, 5, 1, 2, 0);
+        store("no SNAPSHOT", x, 2, 6, 0);
+        due("its entry stays", x.entry(2, 2, 3), 4);
+    }
+
+    static void p14_installTellsCellsAndMembersOfTheSnapshot() {
+        AgreedLog x = Bounds.jointInASnapshot();
+        x.twice(x.first(0, 2, 4));
+        Bounds.lose(x, 0, 2, 4);
+        come(x, 0, 2, 4);
+        store("MEMBERS, the first of both", x, 2, 9, 15);
+        store("the second", x, 2, 10, 7);
+        due("CELL 0", x.cell(2, 0), 5);
+        due("CELL 1", x.cell(2, 1), 0);
+        due("CELL 3", x.cell(2, 3), 6);
+        x.stop(2);
+        store("AGREED", x, 2, 8, 4);
+        due("CELL 0 as in the SNAPSHOT", x.cell(2, 0), 5);
+        due("CELL 3 as in the SNAPSHOT", x.cell(2, 3), 6);
+    }
+
+    static void p14_installTellsMembersThatAreOneSet_notTheFirst() {
+        AgreedLog x = Bounds.jointInASnapshot();
+        come(x, 0, 1, 2);
+        come(x, 1, 0, 3);
+        Bounds.loseAll(x);
+        due("NEW goes", x.compact(0), 1);
+        x.beat(0);
+        come(x, 0, 2, 4);
+        store("MEMBERS", x, 2, 9, 7);
+        store("one set", x, 2, 10, 0);
+        store("the first set is MEMBERS elsewhere", x, 4, 9, 15);
+    }
+
     static void p14_installWithAPlaceOneAboveAgreed() {
         AgreedLog x = Bounds.led(7, "beat 0; settle 99; stop 2; start 2; cut 0 2; set 0 0 4; settle 99; compact 0; join 0 2; beat 0;");
         Bounds.come(x, 0, 2, 4);
@@ -580,6 +625,61 @@ public final class BoundsComesTest {
         come(x, 2, 0, 5);
         due("HAS stays", x.follows(0, 2, 1), 3);
         due("NEXT stays", x.follows(0, 2, 0), 4);
+    }
+
+    static void p14_installedOfAnOlderTermToTheLeaderDoesNothing() {
+        AgreedLog x = installWaits();
+        come(x, 0, 2, 4);
+        Bounds.play(x, "stop 0; start 0; timeout 0;");
+        come(x, 0, 1, 0);
+        come(x, 1, 0, 1);
+        store("leader of TERM 2", x, 0, 3, 2);
+        int waits = x.count(0);
+        come(x, 2, 0, 5);
+        due("HAS stays", x.follows(0, 2, 1), 0);
+        due("NEXT stays", x.follows(0, 2, 0), 3);
+        due("nothing is SENT", x.count(0), waits - 1);
+    }
+
+    static void p14_installedToNoLeaderDoesNothing() {
+        AgreedLog x = installWaits();
+        x.propose(0, 1, 0, 5);
+        come(x, 0, 2, 4);
+        for (int i = 0; i < 2; i++) {
+            come(x, 0, 1, 2);
+            come(x, 1, 0, 3);
+        }
+        store("AGREED", x, 0, 8, 3);
+        Bounds.play(x, "stop 0; start 0;");
+        int waits = x.count(0);
+        come(x, 2, 0, 5);
+        store("AGREED as in the SNAPSHOT", x, 0, 8, 2);
+        due("nothing is SENT", x.count(0), waits - 1);
+    }
+
+    static void p14_installed0OfThisTermToTheLeaderDoesNothing_1IsTaken() {
+        AgreedLog x = Bounds.led(31, "stop 2; set 0 0 4; settle 99; compact 0; start 2; beat 0; timeout 1;");
+        come(x, 1, 2, 0);
+        come(x, 0, 2, 4);
+        latest(x, 5, 2, 0, 0);
+        Bounds.play(x, "stop 0; start 0; timeout 0;");
+        for (int t = 3; t <= 4; t++) {
+            come(x, 0, t, 0);
+            come(x, t, 0, 1);
+        }
+        store("leader of TERM 2", x, 0, 3, 2);
+        int waits = x.count(0);
+        come(x, 2, 0, 5);
+        store("leader still", x, 0, 3, 2);
+        store("of TERM 2", x, 0, 1, 2);
+        due("HAS stays", x.follows(0, 2, 1), 0);
+        due("NEXT stays", x.follows(0, 2, 0), 3);
+        due("nothing is SENT", x.count(0), waits - 1);
+        x = Bounds.after(7, "stop 2; timeout 0; settle 99; compact 0; start 2; beat 0;");
+        come(x, 0, 2, 4);
+        latest(x, 5, 1, 1, 0);
+        come(x, 2, 0, 5);
+        due("HAS", x.follows(0, 2, 1), 1);
     }
 
     static void p14_installedHasItsRound_andIsHeardForARead() {
