@@ -148,6 +148,17 @@ public final class Bounds01to05Test {
         }
     }
 
+    static void p02_allIsAnew_noEntryOfBeforeIsThereForAnInstall() {
+        AgreedLog x = Bounds.led(7, "set 0 0 1; settle 99;");
+        x.begin(7);
+        Bounds.play(x, "stop 2; timeout 0; settle 99; set 0 0 4; settle 99; compact 0; start 2; beat 0;");
+        due("LAST", x.store(2, 4), 0);
+        Bounds.come(x, 0, 2, 4);
+        due("LAST is the SNAPSHOT's place", x.store(2, 4), 2);
+        due("the TERM there", x.store(2, 5), 1);
+        due("CELL", x.cell(2, 0), 4);
+    }
+
     static void p02_setOfOneStore() {
         for (int s = 0; s < 5; s++) {
             AgreedLog x = new AgreedLog();

@@ -137,7 +137,7 @@ public final class Bounds10to17Test {
         due("votes", x.store(0, 11), 0);
         x = Bounds.led(31, "read 0 1; stop 0;");
         due("one that waits", x.store(0, 12), 0);
-        x = Bounds.led(31, "read 0 1; settle 99; stop 0;");
+        x = Bounds.led(31, "set 0 1 5; settle 99; read 0 1; settle 99; stop 0;");
         due("an answered one", x.store(0, 12), 0);
         due("no CELL", x.store(0, 13), NONE);
         due("no number", x.store(0, 14), 0);

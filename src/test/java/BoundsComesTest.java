@@ -567,6 +567,39 @@ public final class BoundsComesTest {
         store("ROLE", x, 2, 3, 0);
     }
 
+    /** 2 had JOINT of TERM 1 at place 2, where 0 has an entry of TERM 2 and a SNAPSHOT. */
+    private static AgreedLog installOverJoint() {
+        AgreedLog x = Bounds.after(7, "timeout 2; settle 99; cut 2 0; cut 2 1; change 2 3; timeout 0; settle 99;",
+            "join 2 0; beat 0; compact 0; beat 0;");
+        store("JOINT", x, 2, 10, 3);
+        come(x, 0, 2, 4);
+        come(x, 2, 0, 5);
+        return x;
+    }
+
+    static void p14_installOverAnEntryThatToldMembers_theyAreThoseOfTheSnapshot() {
+        AgreedLog x = installOverJoint();
+        store("MEMBERS", x, 2, 9, 7);
+        store("one set", x, 2, 10, 0);
+        Bounds.play(x, "set 0 0 4; settle 99; beat 0; settle 99;");
+        due("one more goes", x.compact(2), 1);
+        store("MEMBERS", x, 2, 9, 7);
+        store("one set", x, 2, 10, 0);
+    }
+
+    static void p14_takeUpToTheSnapshot_whereAnotherEntryOnceWas_takesNothingAway() {
+        AgreedLog x = installOverJoint();
+        x.propose(0, 1, 0, 4);
+        x.come(x.count(0) - 1);
+        store("LAST", x, 2, 4, 3);
+        due("an older one waits", x.message(x.first(0, 2, 2), 4), 1);
+        due("with the entry at the SNAPSHOT's place", x.message(x.first(0, 2, 2), 6), 1);
+        come(x, 0, 2, 2);
+        latest(x, 3, 2, 1, 2);
+        store("LAST stays", x, 2, 4, 3);
+        due("the entry behind it stays", x.entry(2, 3, 3), 4);
+    }
+
     static void p14_installOfALesserTerm_installed0() {
         AgreedLog x = installWaits();
         x.timeout(2);
