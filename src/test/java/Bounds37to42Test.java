@@ -397,6 +397,71 @@ public final class Bounds37to42Test {
         due("TERM 200: no TIMEOUT, nothing waits", z.could(0, 3), 0);
     }
 
+    /** 1 wouldn't grant 0 a vote; a TAKE of 2 overwrites what it has by older entries, and then it would. */
+    static void p41_aLogThatIsOverwrittenFirst() {
+        AgreedLog x = new AgreedLog();
+        electBy34(x, 2, 1);
+        x.propose(2, 1, 0, 1);
+        x.propose(2, 1, 0, 2);
+        electBy34(x, 0, 2);
+        electBy34(x, 1, 3);
+        x.stop(2);
+        x.start(2);
+        electBy34(x, 2, 4);
+        x.beat(2);
+        // Twice 1 answers that it hasn't what is BEFORE, so the third TAKE begins at the first place.
+        for (int i = 0; i < 2; i++) {
+            Bounds.come(x, 2, 1, 2);
+            Bounds.come(x, 1, 2, 3);
+        }
+        due("BEFORE", x.message(x.first(2, 1, 2), 4), 0);
+        for (int t : new int[] {0, 3, 4}) {
+            Bounds.lose(x, 2, t, 2);
+        }
+        x.stop(0);
+        x.start(0);
+        while (x.store(0, 1) < 5) {
+            loseAllOf(x, 0);
+            x.timeout(0);
+        }
+        Bounds.come(x, 0, 3, 0);
+        Bounds.come(x, 3, 0, 1);
+        Bounds.lose(x, 0, 2, 0);
+        Bounds.lose(x, 0, 4, 0);
+        due("two votes", x.store(0, 11), 9);
+        due("TAKE and ASK wait", x.count(0), 2);
+        due("1 wouldn't grant it now", x.grants(0) >> 1 & 1, 0);
+        due("not by 2", x.could(0, 2), 0);
+        due("TAKE, ASK, VOTE", x.could(0, 3), 1);
+        Bounds.come(x, 2, 1, 2);
+        due("older ones", x.store(1, 5), 1);
+        Bounds.come(x, 0, 1, 0);
+        Bounds.come(x, 1, 0, 1);
+        due("so it is", x.leader(), 0);
+    }
+
+    private static void loseAllOf(AgreedLog x, int from) {
+        for (int i = x.count(0) - 1; i >= 0; i--) {
+            if (x.message(i, 0) == from) {
+                x.lose(i);
+            }
+        }
+    }
+
+    /** Elected in that TERM by 3 and 4, which have no entries; no other message comes. */
+    private static void electBy34(AgreedLog x, int s, int term) {
+        while (x.store(s, 1) < term) {
+            Bounds.loseAll(x);
+            x.timeout(s);
+        }
+        for (int t = 3; t <= 4; t++) {
+            Bounds.come(x, s, t, 0);
+            Bounds.come(x, t, s, 1);
+        }
+        due("elected", x.leaders(term), 1 << s);
+        Bounds.loseAll(x);
+    }
+
     static void p41_nothingChanges() {
         AgreedLog x = Bounds.after(3, "timeout 0;");
         int[] before = Bounds.facts(x);
