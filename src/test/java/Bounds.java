@@ -172,6 +172,14 @@ final class Bounds {
         }
     }
 
+    static void loseAllBut(AgreedLog x, int from, int to, int kind) {
+        for (int i = x.count(0) - 1; i >= 0; i--) {
+            if (x.message(i, 0) != from || x.message(i, 1) != to || x.message(i, 2) != kind) {
+                x.lose(i);
+            }
+        }
+    }
+
     /** The latest message that waits. */
     static int latest(AgreedLog x, int what) {
         return x.message(x.count(0) - 1, what);

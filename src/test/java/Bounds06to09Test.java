@@ -350,6 +350,16 @@ public final class Bounds06to09Test {
         due("heard", x.store(0, 16), 3);
     }
 
+    static void p07_installedOfAnOlderRoundIsntHeard() {
+        AgreedLog x = Bounds.after(7, "cut 0 2; timeout 0; settle 99; set 0 0 1; settle 99; compact 0; join 0 2; beat 0;");
+        Bounds.come(x, 0, 2, 4);
+        due("INSTALLED with ROUND 0", Bounds.latest(x, 9), 0);
+        due("it waits", x.read(0, 0), 1);
+        Bounds.come(x, 2, 0, 5);
+        due("not heard", x.store(0, 16), 1);
+        due("it waits still", x.store(0, 12), 1);
+    }
+
     static void p07_whoIsHeardTwiceCountsOnce() {
         AgreedLog x = Bounds.led(31, "read 0 0; come 0; twice 3; come 3; come 3;");
         due("heard", x.store(0, 16), 3);
@@ -683,5 +693,94 @@ public final class Bounds06to09Test {
         due("another entry there", x.entry(0, 2, 0), 2);
         due("MEMBERS by the first set", x.store(0, 9), 7);
         due("one set", x.store(0, 10), 0);
+    }
+
+    /** JOINT at 2 and NEW at 3 are in the LOG of 1, AGREED; what stands behind them goes. */
+    static void p09_membersByTheLastOfSeveralEntries_whereLaterEntriesGo() {
+        AgreedLog x = Bounds.led(15, "change 0 7; settle 99; beat 0; settle 99;");
+        due("LAST", x.store(1, 4), 3);
+        due("AGREED", x.store(1, 8), 3);
+        Bounds.play(x, "timeout 1;");
+        Bounds.come(x, 1, 2, 0);
+        Bounds.come(x, 2, 1, 1);
+        Bounds.loseAll(x);
+        due("an entry that goes", x.propose(1, 1, 0, 5), 5);
+        Bounds.loseAll(x);
+        Bounds.play(x, "timeout 2; settle 99;");
+        due("TERM at 4", x.entry(1, 4, 0), 3);
+        due("LAST", x.store(1, 4), 4);
+        due("MEMBERS by NEW", x.store(1, 9), 7);
+        due("one set", x.store(1, 10), 0);
+    }
+
+    /** 0 leads with 119 entries, JOINT (7 and 14) at place 3; 1 and 2 have two of them, 3 has none. */
+    private static AgreedLog jointLongAgo() {
+        AgreedLog x = Bounds.led(7, "set 0 0 1; settle 99; change 0 14; lose 0; lose 0; lose 0;",
+            "times 2 { times 48 { add 0 0 1; lose 0; lose 0; lose 0; } }");
+        while (x.store(0, 4) < 119) {
+            Bounds.play(x, "stop 0; start 0; timeout 0;");
+            for (int t = 1; t <= 2; t++) {
+                Bounds.come(x, 0, t, 0);
+                Bounds.come(x, t, 0, 1);
+            }
+            Bounds.loseAll(x);
+        }
+        due("JOINT isn't AGREED", x.store(0, 8), 0);
+        return x;
+    }
+
+    /** Only messages between the leader 0 and t come, till t has so many entries. */
+    private static void catchUp(AgreedLog x, int t, int last) {
+        x.beat(0);
+        for (int other = 1; other <= 3; other++) {
+            if (other != t) {
+                Bounds.lose(x, 0, other, 2);
+            }
+        }
+        for (int i = 0; i < 200 && x.store(t, 4) < last; i++) {
+            x.come(0);
+        }
+        due("LAST", x.store(t, 4), last);
+        Bounds.come(x, t, 0, 3);
+    }
+
+    /** 2 has JOINT AGREED at 119 without NEW behind it; it is elected, and its own entry is the 120th. */
+    static AgreedLog jointAgreedWithoutRoom() {
+        AgreedLog x = jointLongAgo();
+        catchUp(x, 1, 119);
+        catchUp(x, 2, 116);
+        Bounds.loseAll(x);
+        catchUp(x, 3, 119);
+        due("AGREED by 0", x.store(0, 8), 119);
+        due("NEW by 0", x.entry(0, 120, 1), 4);
+        Bounds.come(x, 0, 2, 2);
+        due("LAST", x.store(2, 4), 119);
+        due("AGREED by 2", x.store(2, 8), 119);
+        due("JOINT by 2", x.store(2, 10), 14);
+        Bounds.loseAll(x);
+        x.timeout(2);
+        Bounds.come(x, 2, 1, 0);
+        Bounds.loseAllBut(x, 1, 2, 1);
+        Bounds.come(x, 1, 2, 1);
+        due("leader", x.leader(), 2);
+        return x;
+    }
+
+    static void p09_jointAgreedAndAnEntryAt120ThatIsnt_nothingMoreIsSent() {
+        AgreedLog x = jointAgreedWithoutRoom();
+        due("LAST", x.store(2, 4), 120);
+        due("AGREED", x.store(2, 8), 119);
+        due("JOINT still", x.store(2, 10), 14);
+        due("TAKE to 0, 1, 3, once", x.count(0), 3);
+    }
+
+    static void p09_membersByJointAgain_whereNewGoes() {
+        AgreedLog x = jointAgreedWithoutRoom();
+        due("MEMBERS by NEW", x.store(0, 9), 14);
+        due("one set", x.store(0, 10), 0);
+        Bounds.come(x, 2, 0, 2);
+        due("another entry there", x.entry(0, 120, 1), 0);
+        due("MEMBERS by JOINT", x.store(0, 9), 7);
+        due("the second set", x.store(0, 10), 14);
     }
 }

@@ -289,6 +289,27 @@ public final class Bounds37to42Test {
         }
     }
 
+    /** JOINT can be AGREED at LAST 120 alone, as no NEW comes there; 3 is in the second set alone and isn't told so yet. */
+    static void p40_ofJointBothSetsCount() {
+        AgreedLog x = Bounds06to09Test.jointAgreedWithoutRoom();
+        x.settle(200);
+        due("AGREED at LAST", x.store(2, 8), 120);
+        due("JOINT still", x.store(2, 10), 14);
+        x.beat(2);
+        Bounds.come(x, 2, 0, 2);
+        Bounds.come(x, 2, 1, 2);
+        Bounds.loseAll(x);
+        due("AGREED in the first set", Math.min(x.store(0, 8), x.store(1, 8)), 120);
+        due("not in the second", x.store(3, 8), 119);
+        due("it is told in the first round", x.rounds(), 1);
+        x.beat(2);
+        Bounds.loseAllBut(x, 2, 1, 2);
+        while (x.count(0) < 60) {
+            x.twice(0);
+        }
+        due("what is SENT in the first round is LOST", x.rounds(), 2);
+    }
+
     static void p40_nothingChanges() {
         AgreedLog x = Bounds.led(31, "set 0 0 1; read 0 0;");
         int[] before = Bounds.facts(x);

@@ -281,6 +281,84 @@ public final class BoundsComesTest {
         store("AGREED stays", x, 1, 8, 2);
     }
 
+    /** The older TAKE tells entries of two TERMS, and more of the later one stand behind them by now. */
+    static void p14_anOlderTakeOfSeveralTermsTakesNothingAway() {
+        AgreedLog x = Bounds.after(7, "cut 0 1; timeout 0; settle 99; set 0 0 1; settle 99; join 0 1; stop 0; start 0; timeout 0;");
+        come(x, 0, 2, 0);
+        come(x, 2, 0, 1);
+        Bounds.loseAll(x);
+        x.propose(0, 1, 0, 2);
+        x.propose(0, 1, 0, 3);
+        Bounds.loseAll(x);
+        x.beat(0);
+        Bounds.loseAllBut(x, 0, 1, 2);
+        come(x, 0, 1, 2);
+        come(x, 1, 0, 3);
+        due("BEFORE", x.message(0, 4), 0);
+        due("three", x.message(0, 6), 3);
+        x.twice(0);
+        x.come(0);
+        come(x, 1, 0, 3);
+        due("two more", Bounds.latest(x, 6), 2);
+        x.come(x.count(0) - 1);
+        store("LAST", x, 1, 4, 5);
+        due("its TERM", x.store(1, 5), 2);
+        due("the older one", x.message(0, 4), 0);
+        come(x, 0, 1, 2);
+        latest(x, 3, 2, 1, 3);
+        store("LAST stays", x, 1, 4, 5);
+        due("TERM at 2", x.entry(1, 2, 0), 1);
+        due("TERM at 3", x.entry(1, 3, 0), 2);
+    }
+
+    /** The TERM at BEFORE is far above the SNAPSHOT's place here, and it isn't looked at. */
+    static void p14_takeWithBeforeBelowTheSnapshot_whateverTheTermThere() {
+        AgreedLog x = Bounds.after(7);
+        Bounds.raiseTerm(x, 0, 8);
+        Bounds.play(x, "timeout 0; settle 99; set 0 0 1;");
+        x.twice(x.first(0, 1, 2));
+        Bounds.play(x, "come 0; come 0; come 1; come 1; beat 0;");
+        x.come(x.count(0) - 2);
+        store("AGREED", x, 1, 8, 2);
+        due("both go", x.compact(1), 2);
+        int old = x.first(0, 1, 2);
+        due("BEFORE", x.message(old, 4), 1);
+        due("its TERM", x.message(old, 5), 9);
+        x.come(old);
+        latest(x, 3, 9, 1, 2);
+    }
+
+    /** The TERM at BEFORE is below the SNAPSHOT's place here, but it is another one than there. */
+    static void p14_takeWithAnotherTermAtBeforeAboveTheSnapshot_took0() {
+        AgreedLog x = Bounds.led(31, "set 0 0 1; settle 99; set 0 0 2; settle 99; beat 0; settle 99; compact 1; set 0 0 3;");
+        store("SNAPSHOT", x, 1, 6, 3);
+        Bounds.loseAll(x);
+        elect(x, 1, 2);
+        Bounds.play(x, "stop 0; start 0;");
+        elect(x, 0, 3);
+        x.beat(0);
+        due("BEFORE", x.message(0, 4), 4);
+        due("its TERM", x.message(0, 5), 1);
+        due("TERM here", x.entry(1, 4, 0), 2);
+        come(x, 0, 1, 2);
+        latest(x, 3, 3, 0, 3);
+        due("it stays", x.entry(1, 4, 0), 2);
+    }
+
+    /** Elected in that TERM by 3 and 4 alone; what it SENDS then is lost. */
+    private static void elect(AgreedLog x, int s, int term) {
+        while (x.store(s, 1) < term) {
+            Bounds.loseAll(x);
+            x.timeout(s);
+        }
+        for (int t = 3; t <= 4; t++) {
+            come(x, s, t, 0);
+            come(x, t, s, 1);
+        }
+        due("elected", x.leaders(term), 1 << s);
+        Bounds.loseAll(x);
+    }
+
     /** 1 has AGREED up to 2 and a SNAPSHOT of that, but 0 doesn't know that it has: it tells 2 again. */
     private static AgreedLog snapshotAt2() {
         AgreedLog x = Bounds.led(7, "set 0 0 1; come 0; come 0;");

@@ -295,8 +295,15 @@ public final class SentencesTest {
         "times 2{times 3{times 1{beat 0;}}}", " hand 1 2 ;cut 3 4;add 10 200 -300 ; ", "times 50 { } lose 1; come 2; "};
 
     private static void sameFault(AgreedLog x, String text) {
+        sameFault(x, text, text.length());
+    }
+
+    /** The first n bytes are the SCRIPT; those behind stand on THE TAPE all the same. */
+    private static void sameFault(AgreedLog x, String tape, int n) {
+        String text = tape.substring(0, n);
         ModelScript due = new ModelScript(text);
-        int got = Check.script(x, text);
+        Check.feed(x, tape);
+        int got = x.script(n);
         due("FAULT of \"" + text + "\"", x.fault(0), due.fault);
         due("its place in \"" + text + "\"", x.fault(1), due.faultPlace);
         due("the answer for \"" + text + "\"", Math.min(got, 0), due.fault == 0 ? 0 : -30 - due.fault);
@@ -331,6 +338,41 @@ public final class SentencesTest {
                 sameFault(x, text.substring(0, i) + text.substring(i + 1));
                 sameFault(x, text.substring(0, i));
             }
+        }
+    }
+
+    /** A word or a number that goes on behind the n-th byte ends there. */
+    static void p19_theFirstNBytesAlone_ofAnyText() {
+        AgreedLog x = new AgreedLog();
+        for (String text : TEXTS) {
+            for (int n = 0; n <= text.length(); n++) {
+                sameFault(x, text, n);
+                sameFault(x, text.substring(0, n) + "abc", n);
+                sameFault(x, text.substring(0, n) + "0123", n);
+            }
+        }
+    }
+
+    static void p19_whatStandsBehindTheNthByteIsntRead() {
+        AgreedLog x = new AgreedLog();
+        Check.feed(x, "timeout 0;timeout 1;");
+        due("one act", x.script(10), 1);
+        due("of 0", x.store(0, 1), 1);
+        due("none of 1", x.store(1, 1), 0);
+        Check.feed(x, "timeout 1;beater 0; ");
+        due("beat", x.script(14), -31);
+        due("its number is due at the end", x.fault(1), 14);
+        Check.feed(x, "timeout 12;");
+        due("timeout 1", x.script(9), -31);
+        due("its ; is due at the end", x.fault(1), 9);
+    }
+
+    /** No byte stands behind the 300th. */
+    static void p19_300BytesThatEndInAWordOrANumber() {
+        for (String end : new String[] {"beat", "settle 20", "times", "set 0 1 -", "times 50 {", "careful 1"}) {
+            AgreedLog x = new AgreedLog();
+            sameFault(x, " ".repeat(300 - end.length()) + end);
+            due("at the end of \"" + end + "\"", x.fault(1), 300);
         }
     }
 }
